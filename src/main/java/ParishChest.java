@@ -1785,13 +1785,16 @@ public final class ParishChest {
 
         /** Whether two NAMES are known and not ALIKE. */
         boolean differ(int a, int b, int which) {
-            if (!areKnown(a, b, which)) {
-                return false;
-            }
             int x = a * 2 + which;
             int y = b * 2 + which;
+            if (x < 0 || y < 0 || x >= MOST_NAMES || y >= MOST_NAMES) {
+                return false;
+            }
             int m = foldedLength[x];
             int n = foldedLength[y];
+            if (m < 0 || n < 0) {
+                return false;
+            }
             if (!cut[x] && n > m || !cut[y] && m > n) {
                 return true;
             }
@@ -1968,7 +1971,7 @@ public final class ParishChest {
         }
 
         int soulAt(int mention) {
-            return isMention(mention) ? soulOf[mention] : NONE;
+            return mention >= 0 && mention < MOST_MENTIONS && mention / 3 < chest.lines.rows ? soulOf[mention] : NONE;
         }
 
         private void bind(int row, int a, int b) {
@@ -2126,7 +2129,8 @@ public final class ParishChest {
         private void narrowSpan(int m) {
             int on = day[m];
             int bornFrom = 0;
-            int bornTo = isMan(m) || isWoman(m) ? on - GROWN_DAYS : on;
+            // FATHER .. BRIDE are the codes of all who are grown.
+            int bornTo = code[m] >= FATHER && code[m] <= BRIDE ? on - GROWN_DAYS : on;
             int diedFrom = code[m] == FATHER ? on - YEAR_DAYS : on;
             if (code[m] == CHILD) {
                 bornFrom = on;
@@ -2416,16 +2420,40 @@ public final class ParishChest {
                 return tape.blame();
             }
             tape.step();
+            openHead(kind);
+            if (kind == STRIKE) {
+                return readStrike();
+            }
+            if (!readHead(kind)) {
+                return false;
+            }
+            if (kind == RATE || kind == RELIEF_SUM || kind == FEE || kind == SEAT) {
+                note(Text.SUM_AT, length);
+                if (!readSum(0)) {
+                    return false;
+                }
+                emit(STOP);
+            }
+            for (int n = 0; n < 2; n++) {
+                if (tape.wordOf(n == 0 ? "if " : "unless ") == 0) {
+                    tape.step();
+                    note(n == 0 ? Text.IF_AT : Text.UNLESS_AT, length);
+                    if (!readTest(0)) {
+                        return false;
+                    }
+                    emit(STOP);
+                }
+            }
+            return true;
+        }
+
+        private void openHead(int kind) {
             note(Text.KIND, kind);
             note(Text.WHICH, 0);
             note(Text.NUMBER, 0);
             note(Text.SUM_AT, NONE);
             note(Text.IF_AT, NONE);
             note(Text.UNLESS_AT, NONE);
-            if (kind == STRIKE) {
-                return readStrike();
-            }
-            return readHead(kind) && readCondition("if ", Text.IF_AT) && readCondition("unless ", Text.UNLESS_AT);
         }
 
         private boolean readStrike() {
@@ -2439,15 +2467,15 @@ public final class ParishChest {
             return readNumber(Text.NUMBER, MOST_CLAUSES - 1);
         }
 
+        /** What stands behind a kind's word, but for its SUM. */
         private boolean readHead(int kind) {
             switch (kind) {
                 case BELONG: return readWhich(GROUNDS);
-                case EXEMPT: return readWhich(WHATS);
-                case RATE: return readWhich(WHATS) && readOwnSum();
+                case EXEMPT:
+                case RATE: return readWhich(WHATS);
                 case TURN: return readWhich(OFFICES) && readNumber(Text.NUMBER, LAST_YEAR);
-                case FEE: return readWhich(FEES) && readOwnSum();
-                case BADGE: return true;
-                default: return readOwnSum();
+                case FEE: return readWhich(FEES);
+                default: return true;
             }
         }
 
@@ -2468,28 +2496,6 @@ public final class ParishChest {
             }
             note(column, number);
             tape.step();
-            return true;
-        }
-
-        private boolean readOwnSum() {
-            note(Text.SUM_AT, length);
-            if (!readSum(0)) {
-                return false;
-            }
-            emit(STOP);
-            return true;
-        }
-
-        private boolean readCondition(String word, int column) {
-            if (tape.wordOf(word) != 0) {
-                return true;
-            }
-            tape.step();
-            note(column, length);
-            if (!readTest(0)) {
-                return false;
-            }
-            emit(STOP);
             return true;
         }
 
@@ -2538,26 +2544,36 @@ public final class ParishChest {
                 tape.step();
             }
             int word = tape.wordOf(PLAINS);
-            boolean fine;
             if (tape.isSign('(')) {
-                fine = readBracket(deep);
+                if (deep >= MOST_BRACKETS) {
+                    return tape.blame();
+                }
+                tape.step();
+                if (!readTest(deep + 1) || !readSign(')')) {
+                    return false;
+                }
             } else if (word != NONE) {
-                fine = readPart(ASK, FIRST_PLAIN + word);
+                if (!readPart(ASK, FIRST_PLAIN + word)) {
+                    return false;
+                }
             } else {
-                fine = readComparison(deep);
+                if (!readSum(deep)) {
+                    return false;
+                }
+                int sign = tape.isSign('<') ? LESS : tape.isSign('>') ? MORE : tape.isSign('=') ? SAME : NONE;
+                if (sign == NONE) {
+                    return tape.blame();
+                }
+                tape.step();
+                if (!readSum(deep)) {
+                    return false;
+                }
+                emit(sign);
             }
             if (not) {
                 emit(NOT);
             }
-            return fine;
-        }
-
-        private boolean readBracket(int deep) {
-            if (deep >= MOST_BRACKETS) {
-                return tape.blame();
-            }
-            tape.step();
-            return readTest(deep + 1) && readSign(')');
+            return true;
         }
 
         private boolean readSign(char sign) {
@@ -2565,22 +2581,6 @@ public final class ParishChest {
                 return tape.blame();
             }
             tape.step();
-            return true;
-        }
-
-        private boolean readComparison(int deep) {
-            if (!readSum(deep)) {
-                return false;
-            }
-            int sign = tape.isSign('<') ? LESS : tape.isSign('>') ? MORE : tape.isSign('=') ? SAME : NONE;
-            if (sign == NONE) {
-                return tape.blame();
-            }
-            tape.step();
-            if (!readSum(deep)) {
-                return false;
-            }
-            emit(sign);
             return true;
         }
 
@@ -2686,11 +2686,12 @@ public final class ParishChest {
             if (isFresh(lawsKey, day, known, chest.version)) {
                 return;
             }
-            for (int t = 0; t < MOST_TEXTS; t++) {
+            int texts = Math.min(MOST_TEXTS, chest.textCount);
+            for (int t = 0; t < texts; t++) {
                 struck[t] = 0;
                 inForce[t] = 0;
             }
-            for (int t = Math.min(MOST_TEXTS, chest.textCount) - 1; t >= 0; t--) {
+            for (int t = texts - 1; t >= 0; t--) {
                 Text text = textAt(t);
                 if (text != null && text.known <= known && text.from <= day) {
                     inForce[t] = (1 << text.clauses) - 1 & ~struck[t];
@@ -2709,7 +2710,7 @@ public final class ParishChest {
         }
 
         boolean isInForce(int t, int clause) {
-            return t >= 0 && t < MOST_TEXTS && (inForce[t] >> clause & 1) == 1;
+            return t >= 0 && t < MOST_TEXTS && t < chest.textCount && (inForce[t] >> clause & 1) == 1;
         }
 
         // ---- HOLDINGS
@@ -2734,7 +2735,7 @@ public final class ParishChest {
 
         /** For each HOLDING what was told of it for the latest DAY, of alike ones told last. */
         private void readLatest(Table rows, int column, int[] into, int without) {
-            for (int h = 0; h < MOST_HOLDINGS && h < into.length; h++) {
+            for (int h = 0; h < MOST_HOLDINGS && h < chest.holdings.rows && h < into.length; h++) {
                 into[h] = without;
                 latest[h] = NONE;
             }
@@ -2964,7 +2965,7 @@ public final class ParishChest {
         }
 
         /** The PARISH, NONE without; by and lacks are of it then. Needs SOULS as known. */
-        int belongs(int soul, int day, int depth) {
+        private int belongs(int soul, int day, int depth) {
             by = NONE;
             lacks = 0;
             if (soul == NONE || depth < 0 || depth > DEEPEST) {
@@ -3086,6 +3087,7 @@ public final class ParishChest {
         final int[] servedBy = new int[LAST_YEAR + 1];
         final int[] passedIn = new int[LAST_YEAR + 1];
         final int[] servedLast = new int[MOST_HOLDINGS];
+        final int[] times = new int[MOST_HOLDINGS];
         int yearsRun = 0;
         int lastHouse = NONE;
         final int[] turnKey = new int[3];
@@ -3235,17 +3237,20 @@ public final class ParishChest {
 
         /** How often the HOLDING that served most in YEARS 0 .. year did, less the one that did least. */
         int unevenness(int year) {
+            for (int h = 0; h < MOST_HOLDINGS; h++) {
+                times[h] = 0;
+            }
+            for (int y = 0; y <= year && y <= LAST_YEAR; y++) {
+                int h = servedBy[y];
+                if (h >= 0 && h < MOST_HOLDINGS) {
+                    times[h]++;
+                }
+            }
             int most = 0;
             int least = houses() == 0 ? 0 : LAST_YEAR + 1;
             for (int h = 0; h < houses(); h++) {
-                int often = 0;
-                for (int y = 0; y <= year && y <= LAST_YEAR; y++) {
-                    if (servedBy[y] == h) {
-                        often++;
-                    }
-                }
-                most = Math.max(most, often);
-                least = Math.min(least, often);
+                most = Math.max(most, times[h]);
+                least = Math.min(least, times[h]);
             }
             return most - least;
         }
