@@ -2111,42 +2111,37 @@ public final class ParishChest {
 
         // ---- SPAN, first DAY, relief
 
+        /** BORN from .. to, DIED from .. to, into span. */
         void readSpan(int soul) {
-            span[0] = 0;
-            span[1] = LAST_DAY;
-            span[2] = 0;
-            span[3] = LAST_DAY;
+            int b = 0;
+            int c = LAST_DAY;
+            int e = 0;
+            int f = LAST_DAY;
             for (int m = soul, n = 0; m != NONE && n < MOST_MENTIONS; m = next[m], n++) {
-                narrowSpan(m);
+                int on = day[m];
+                // FATHER .. BRIDE are the codes of all who are grown.
+                c = Math.min(c, code[m] >= FATHER && code[m] <= BRIDE ? on - GROWN_DAYS : on);
+                e = Math.max(e, code[m] == FATHER ? on - YEAR_DAYS : on);
+                if (code[m] == CHILD) {
+                    b = Math.max(b, on);
+                } else if (code[m] == MOTHER) {
+                    b = Math.max(b, on - MOTHER_DAYS);
+                } else if (code[m] == DEAD) {
+                    f = Math.min(f, on);
+                    if (number[m] != NONE) {
+                        int born = on / YEAR_DAYS - number[m];
+                        b = Math.max(b, (born - slack) * YEAR_DAYS);
+                        c = Math.min(c, (born + slack) * YEAR_DAYS + YEAR_DAYS - 1);
+                    }
+                }
             }
-            span[3] = Math.min(span[3], span[1] + LIFE_DAYS);
-            span[0] = Math.max(span[0], span[2] - LIFE_DAYS);
+            span[0] = Math.max(b, e - LIFE_DAYS);
+            span[1] = c;
+            span[2] = e;
+            span[3] = Math.min(f, c + LIFE_DAYS);
             for (int i = 0; i < 4; i++) {
                 span[i] = Math.max(0, Math.min(LAST_DAY, span[i]));
             }
-        }
-
-        private void narrowSpan(int m) {
-            int on = day[m];
-            int bornFrom = 0;
-            // FATHER .. BRIDE are the codes of all who are grown.
-            int bornTo = code[m] >= FATHER && code[m] <= BRIDE ? on - GROWN_DAYS : on;
-            int diedFrom = code[m] == FATHER ? on - YEAR_DAYS : on;
-            if (code[m] == CHILD) {
-                bornFrom = on;
-            } else if (code[m] == MOTHER) {
-                bornFrom = on - MOTHER_DAYS;
-            } else if (code[m] == DEAD) {
-                span[3] = Math.min(span[3], on);
-                if (number[m] != NONE) {
-                    int born = on / YEAR_DAYS - number[m];
-                    bornFrom = (born - slack) * YEAR_DAYS;
-                    bornTo = Math.min(bornTo, (born + slack) * YEAR_DAYS + YEAR_DAYS - 1);
-                }
-            }
-            span[0] = Math.max(span[0], bornFrom);
-            span[1] = Math.min(span[1], bornTo);
-            span[2] = Math.max(span[2], diedFrom);
         }
 
         /** The first DAY, not behind another, on which a SOUL is told of; that other without. */
