@@ -6,6 +6,7 @@ public final class ChestTest {
     public static void main(String[] args) {
         images();
         backToAll();
+        otherLines();
         whatStays();
         kinds();
         counts();
@@ -121,6 +122,29 @@ public final class ChestTest {
         p.due("found: two bits of two masks", p.x.found(10), 0);
         p.x.back(1);
         same("altered ones come back", askAll(), one);
+    }
+
+    /** What is worked out of a LINE is worked out anew, the first LINE's, too. */
+    private static void otherLines() {
+        p.fresh();
+        p.x.image(0);
+        p.line(2, 50 * Y, 40, "ann lee.");
+        p.line(0, 10 * Y, -1, "ann lee.");
+        p.x.image(1);
+        p.x.alter(0, 16);
+        p.due("AGE 56", p.x.reason(0, 3), 7);
+        p.x.back(1);
+        p.due("AGE 40 again", p.x.reason(0, 3), 0);
+        p.x.back(0);
+        p.line(0, 20 * Y, -1, "eve fox, bob fox.");
+        p.due("another LINE 0", p.x.name(0, 0, 0), 'e');
+        p.due("another MENTION", p.x.name(1, 0, 0), 'b');
+        p.due("no LINE 1", p.x.soul(3, 146399), -1);
+        p.x.back(1);
+        p.due("the old LINE 0", p.x.name(0, 0, 0), 'a');
+        p.due("no such MENTION", p.x.name(1, 0, 0), -1);
+        p.due("the old SPAN", p.x.span(0, 146399, 2), 50 * Y);
+        p.due("the old REASON", p.x.reason(0, 3), 0);
     }
 
     private static void whatStays() {

@@ -245,6 +245,10 @@ public final class HoldingsTest {
         p.text(1, 0, 50, "exempt way if value > 25;exempt way if value = 20");
         owes("all exempt", 0, 50, 0, 0, 0);
         owes("another WHAT", 1, 50, 100, 200, 300);
+        p.x.levy(0, 5, 1, 0);
+        owes("one penny", 2, 50, 0, 0, 1);
+        p.text(1, 0, 55, "rate church 0");
+        owes("one penny at most 0", 2, 55, 0, 0, 0);
         p.text(1, 0, 60, "rate poor 100 * 1000 * 1000 * 1000");
         owes("a great SUM", 1, 60, 100, 200, 300);
     }

@@ -148,6 +148,21 @@ public final class PagesTest {
         p.due("153 DAYS, pages that overlap or are away", p.x.fill(4, from, from + 152, 60 * Y, 2), 1);
         p.x.torn(4, from - 1, from - 1, 60 * Y);
         p.due("the LINES' own DAY is TORN", p.x.fill(4, from, from + 3000, 60 * Y, 2), 0);
+        // Six pages with DAYS between them: 6 * 50 of 3660 and 3660.
+        p.fresh();
+        for (int n = 0; n < 6; n++) {
+            p.x.torn(4, from - 100 * (6 - n), from - 100 * (6 - n) + 49, 0);
+        }
+        p.line(4, from - 1, 5, "?.");
+        p.due("7020 DAYS: 3509 would have held none", p.x.fill(4, from, from + 3508, 60 * Y, 2), 0);
+        p.due("7020 DAYS: 3510 would have held one", p.x.fill(4, from, from + 3509, 60 * Y, 2), 1);
+        p.x.torn(4, from + 4000, from + 4000 + 1999, 0);
+        p.due("5020 DAYS: 2509", p.x.fill(4, from, from + 2508, 60 * Y, 2), 0);
+        p.due("5020 DAYS: 2510", p.x.fill(4, from, from + 2509, 60 * Y, 2), 1);
+        p.line(4, from + 2510, 5, "?.");
+        p.due("a LINE on the DAY behind", p.x.fill(4, from, from + 2509, 60 * Y, 2), 1);
+        p.due("a LINE on the last DAY itself", p.x.fill(4, from, from + 2510, 60 * Y, 2), 1);
+        p.due("a LINE on the DAY behind, of 3765", p.x.fill(4, from - 1255, from + 2509, 60 * Y, 2), 1);
         // As far as there are DAYS: 10 ahead, none behind.
         p.fresh();
         p.line(4, 0, 5, 5, 5, "?.");

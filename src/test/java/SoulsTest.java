@@ -10,6 +10,7 @@ public final class SoulsTest {
         likeness();
         worth();
         worthOfKin();
+        foldedAway();
         apart();
         together();
         waits();
@@ -196,7 +197,10 @@ public final class SoulsTest {
         p.line(1, 39 * Y, -1, "bob lee, may lee.");
         p.due("father and groom by mother and bride", p.x.worth(1, 3), 11);
         p.due("mother and bride by father and groom", p.x.worth(2, 4), 11);
+        p.due("groom and father by bride and mother", p.x.worth(3, 1), 11);
+        p.due("bride and mother by groom and father", p.x.worth(4, 2), 11);
         p.x.apart(1, 3);
+        p.due("the other way round", p.x.worth(4, 2), 3);
         p.due("not if those are APART", p.x.worth(2, 4), 3);
         p.due("nor they themselves", p.x.worth(1, 3), -1);
     }
@@ -209,6 +213,23 @@ public final class SoulsTest {
         p.line(0, 42 * Y, -1, b);
         int other = 3 - kinRole;
         p.due(what, p.x.worth(other, 3 + other), want);
+    }
+
+    /** A NAME that folds away is known all the same. */
+    private static void foldedAway() {
+        p.fresh();
+        p.x.terms(1, 2, 4, 8, 2);
+        p.spell(1, "x>,y>");
+        p.line(0, 1, 40 * Y, 40 * Y, -1, "? ?, x y, ?.");
+        p.line(0, 1, 42 * Y, 42 * Y, -1, "? ?, y x, ?.");
+        p.line(3, 0, 43 * Y, 43 * Y, 5, "ann lee.");
+        p.due("both fold away", p.x.worth(1, 4), 3);
+        p.due("by their fathers", p.x.worth(2, 5), 8);
+        p.due("not as one that does not", p.x.reason(1, 6), 3);
+        p.due("it is no unknown ROLE", p.x.kin(0, 146399, 0, 0), 1);
+        p.due("an unknown one is none", p.x.kin(0, 146399, 1, 0), -1);
+        p.due("no letter", p.x.name(1, 0, -1), 0);
+        p.due("as told", p.x.piece(1, 0, 0, 1), 24);
     }
 
     private static void apart() {

@@ -248,6 +248,11 @@ public final class TapeTest {
         p.due("alike by SPELLINGS", p.x.reason(6, 9), 0);
         p.spell(1, "y>e");
         p.due("as they are now", p.x.reason(6, 9), 4);
+        p.line(3, 15, 5, 5, 0, "hans smyth.");
+        p.refused("a left side of four", p.spell(15, "hans>eve"), -6);
+        p.taken("the last HAND", p.spell(15, "y>i,an>,n>mm,h>p,s>,m>"), 6);
+        folded("the last HAND", 12, 0, "p");
+        folded("the last HAND", 12, 1, "itp");
     }
 
     private static void folded(String what, int mention, int which, String want) {
