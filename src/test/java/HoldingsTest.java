@@ -112,6 +112,8 @@ public final class HoldingsTest {
         p.taken("hold", p.x.hold(0, 3, 10, 20), 1);
         p.taken("hold", p.x.hold(0, 6, 50, 20), 2);
         p.due("holds", p.x.house(0, 10, 20, 1), 3);
+        p.due("what 2", p.x.house(0, 10, 20, 2), -1);
+        p.due("what -1", p.x.house(0, 10, 20, -1), -1);
         p.due("not yet", p.x.house(0, 9, 20, 1), -1);
         p.due("not known", p.x.house(0, 10, 19, 1), -1);
         p.due("the latest", p.x.house(0, 50, 20, 1), 6);

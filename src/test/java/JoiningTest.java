@@ -8,6 +8,7 @@ public final class JoiningTest {
         noWishes();
         bestOfThree();
         fewestGroupsThenFirst();
+        fewerGroupsLater();
         tied();
         nine();
         joinTells();
@@ -124,6 +125,27 @@ public final class JoiningTest {
         p.x.wish(6);
         best("the middle one with either", 10, 2, 20, 2);
         groups("the middle one with either", 0, 0, 1);
+    }
+
+    /** The one of fewer groups comes later: 0 1 0 1 behind 0 0 1 2. */
+    private static void fewerGroupsLater() {
+        for (int turn = 0; turn < 2; turn++) {
+            p.fresh();
+            for (int n = 0; n < 4; n++) {
+                p.line(3, n, 0, turn == 0 && n < 2 ? "ann ?." : "?.");
+                p.x.wish(n * 3);
+            }
+            p.x.apart(6, 3);
+            p.x.apart(9, 0);
+            p.x.apart(6, 9);
+            if (turn == 0) {
+                best("a greater WORTH is first", 10, 3, 10, 1);
+                groups("a greater WORTH is first", 0, 0, 1, 2);
+            } else {
+                best("fewer groups of alike ones", 0, 2, 0, 5);
+                groups("fewer groups of alike ones", 0, 1, 0, 1);
+            }
+        }
     }
 
     private static void tied() {

@@ -278,6 +278,8 @@ public final class LawsTest {
         sum("99999 * 10001 * 1000 + 100000", Probe.NO_SUM);
         town();
         sum("99999 * 10000 * 1000", 999990000000L);
+        sum("100000 * 100000 * 99 + 100000 * 100000", 1000000000000L);
+        sum("0 - 100000 * 100000 * 99 - 100000 * 100000", -1000000000000L);
         sum("[0 - 100000] * 100000 * [0 - 100]", 1000000000000L);
         sum("100000 * 100000 * 100 * 0", 0);
         sum("0 * [100000 * 100000 * 100]", 0);
@@ -443,6 +445,16 @@ public final class LawsTest {
         p.line(4, 100 * Y + 10, 5, "bob lee.");
         p.x.together(0, 21, 0);
         p.due("relieved twice", p.x.about(0, 100 * Y + 10, last, 4), 12);
+        p.line(0, 101 * Y, -1, "zoe may, tim may, ivy may.");
+        p.due("a father's child", p.x.about(25, 101 * Y, last, 1), 1);
+        p.due("a mother's child", p.x.about(26, 101 * Y, last, 1), 1);
+        p.due("a child's child", p.x.about(24, 101 * Y, last, 1), 0);
+        p.line(4, 101 * Y, 1, "tim may.");
+        p.due("poor by a penny", p.x.about(27, 101 * Y, last, 7), 1);
+        p.x.holding();
+        p.x.value(1, 1, 0, 0);
+        p.x.hold(1, 27, 0, 0);
+        p.due("holds of a penny", p.x.about(27, 101 * Y, last, 8), 1);
         p.due("what -1", p.x.about(0, 0, 0, -1), -1);
         p.due("what 10", p.x.about(0, 100 * Y, last, 10), -1);
         p.due("no MENTION", p.x.about(99, 100 * Y, last, 0), -1);

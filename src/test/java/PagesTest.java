@@ -163,6 +163,23 @@ public final class PagesTest {
         p.due("a LINE on the DAY behind", p.x.fill(4, from, from + 2509, 60 * Y, 2), 1);
         p.due("a LINE on the last DAY itself", p.x.fill(4, from, from + 2510, 60 * Y, 2), 1);
         p.due("a LINE on the DAY behind, of 3765", p.x.fill(4, from - 1255, from + 2509, 60 * Y, 2), 1);
+        // The first and the last DAY that count: 1 on 7320 DAYS, of 3660.
+        for (int more = -1; more <= 1; more++) {
+            p.fresh();
+            p.line(4, 0, from + 3659 + 3660 + more, 60 * Y, 5, "?.");
+            p.due("3660 DAYS behind, " + more, p.x.fill(4, from, from + 3659, 60 * Y, 2), more > 0 ? 0 : 1);
+            p.fresh();
+            p.line(4, 0, from - 3660 - more, 60 * Y, 5, "?.");
+            p.due("3660 DAYS ahead, " + more, p.x.fill(4, from, from + 3659, 60 * Y, 2), more > 0 ? 0 : 1);
+        }
+        // Pages of one DAY, with DAYS of one between: 7317 DAYS whole.
+        p.fresh();
+        p.x.torn(4, from - 10, from - 10, 0);
+        p.x.torn(4, from - 8, from - 8, 0);
+        p.x.torn(4, from - 6, from - 6, 0);
+        p.line(4, 0, from - 1, 60 * Y, 5, "?.");
+        p.due("3658 of 7317", p.x.fill(4, from, from + 3657, 60 * Y, 2), 0);
+        p.due("3659 of 7317", p.x.fill(4, from, from + 3658, 60 * Y, 2), 1);
         // As far as there are DAYS: 10 ahead, none behind.
         p.fresh();
         p.line(4, 0, 5, 5, 5, "?.");

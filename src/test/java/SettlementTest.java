@@ -174,6 +174,17 @@ public final class SettlementTest {
         p.due("6 times", where(18, LAST), 9);
         p.due("7 times", where(21, LAST), -1);
         p.due("7 times: LACKS", p.x.belong(21, LAST, LAST, 2), 36);
+        p.text(1, 0, 0, "belong wed");
+        for (int n = 5; n <= 6; n++) {
+            int line = p.line(1, 200 * Y, -1, "a" + (char) ('a' + n) + " lee, eve fox.");
+            p.x.together(n * 3, line * 3, 0);
+            p.due("wed, and " + n + " times", where(line * 3 + 1, 200 * Y), n == 5 ? 9 : -1);
+        }
+        for (int n = 6; n <= 7; n++) {
+            int line = p.line(5, 210 * Y, 9, "a" + (char) ('a' + n) + " lee.");
+            p.x.together(n * 3, line * 3, 0);
+            p.due("an ORDER by " + n + " times", p.x.order(line, LAST, 0), n == 6 ? 1 : 0);
+        }
     }
 
     private static void ordering() {

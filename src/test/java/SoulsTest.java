@@ -192,6 +192,12 @@ public final class SoulsTest {
         kinWorth("mothers of one family", "?,?, bess lee.", "?,?, bess fo-.", 2, 0);
         kinWorth("mothers of one family", "?,?, bess fox.", "?,?, bess fo-.", 2, 8);
         p.fresh();
+        p.line(0, 40 * Y, -1, "?, bob lee, may lee.");
+        p.line(1, 39 * Y, -1, "bob lee, may lee.");
+        p.line(2, 80 * Y, 40, "?.");
+        p.due("10, 10, 20 at first", p.x.worth(1, 3), 40);
+        p.due("5 at first", p.x.worth(0, 6), 5);
+        p.fresh();
         p.x.terms(1, 2, 4, 8, 2);
         p.line(0, 40 * Y, -1, "?, bob lee, may lee.");
         p.line(1, 39 * Y, -1, "bob lee, may lee.");
@@ -381,6 +387,7 @@ public final class SoulsTest {
         p.due("second, the unknown one is none", p.x.kin(1, k, 3, 1), 16);
         p.due("no third", p.x.kin(1, k, 3, 2), -1);
         p.due("of the bride", p.x.kin(16, k, 3, 0), 1);
+        p.due("of one who was never wed", p.x.kin(0, k, 3, 0), -1);
         p.due("i -1", p.x.kin(1, k, 3, -1), -1);
         p.due("i -1", p.x.kin(1, k, 2, -1), -1);
         p.due("what", p.x.kin(1, k, 4, 0), -1);

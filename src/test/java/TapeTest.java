@@ -235,12 +235,19 @@ public final class TapeTest {
         folded("first", 0, 1, "xhaxcher");
         p.taken("none again", p.spell(3, "  "), 0);
         folded("none", 0, 0, "phylyp");
+        folded("none", 0, 1, "thatcher");
         p.taken("all letters go", p.spell(3, "t>,h>,a>,c>,e>,r>"), 6);
         p.due("a NAME that folds away", p.x.name(0, 1, -1), 0);
         p.due("a NAME that folds away", p.x.name(0, 1, 0), -1);
         p.line(2, 0, 1, 1, -1, "abcdefghijkl x.");
         p.taken("eight", p.spell(0, "a>abc,b>abc,c>abc,d>abc,e>abc,f>abc,g>abc,h>abc"), 8);
         p.due("3 letters for one", p.x.name(3, 0, -1), 28);
+        p.line(2, 0, 1, 1, -1, "abcdefghabcd x.");
+        p.due("3 letters for each of 12", p.x.name(6, 0, -1), 36);
+        p.due("the last of them", p.x.name(6, 0, 35), 'c');
+        p.fresh();
+        p.line(2, 0, 1, 1, -1, ".");
+        p.line(2, 0, 1, 1, -1, ".");
         p.line(3, 1, 5, 5, 0, "hans smyth.");
         p.line(3, 2, 5, 5, 0, "hans smith.");
         p.due("spelled apart", p.x.reason(6, 9), 4);
@@ -336,6 +343,11 @@ public final class TapeTest {
         p.due("no NAME", p.x.piece(0, 2, 0, 1), -2);
         p.line(2, 10, -1, "?.");
         p.due("unknown", p.x.piece(3, 0, 0, 0), -2);
+        p.line(0, 10, -1, "ann lee, bob lee.");
+        p.due("no NAME, though one stands behind", p.x.piece(6, 2, 0, 1), -2);
+        p.due("no NAME, though one stands ahead", p.x.piece(7, -1, 0, 1), -2);
+        p.due("nor byte", p.x.name(6, 2, 0), -1);
+        p.due("nor byte", p.x.name(7, -1, 0), -1);
         p.due("-2 ahead of -3", p.x.piece(3, 0, -1, 0), -2);
     }
 }
