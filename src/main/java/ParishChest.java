@@ -146,16 +146,16 @@ public final class ParishChest {
 
     public int line(int book, int hand, int day, int known, int number) {
         if (!isBook(book) || hand < 0 || hand > LAST_HAND || !isDay(day) || !isDay(known) || !fitsBook(book, number)) {
-            return refuse(NO_NUMBER);
+            return refuseTape(NO_NUMBER);
         }
         if (told.lines.isFull()) {
-            return refuse(NO_ROOM);
+            return refuseTape(NO_ROOM);
         }
         int torn = scribe.readLine(ROLES_OF[book]);
-        tape.length = 0;
         if (torn == NONE) {
-            return refuse(NO_TEXT);
+            return refuseTape(NO_TEXT);
         }
+        tape.length = 0;
         int line = told.lines.rows;
         told.lines.add(known, day, book, hand, number, torn);
         for (int n = 0; n < 6; n++) {
@@ -183,13 +183,13 @@ public final class ParishChest {
 
     public int spell(int hand) {
         if (hand < 0 || hand > LAST_HAND) {
-            return refuse(NO_NUMBER);
+            return refuseTape(NO_NUMBER);
         }
         int pairs = scribe.readPairs();
-        tape.length = 0;
         if (pairs == NONE) {
-            return refuse(NO_TEXT);
+            return refuseTape(NO_TEXT);
         }
+        tape.length = 0;
         scribe.keepPairs(hand, pairs);
         for (int line = 0; line < told.lines.rows; line++) {
             if (told.lines.at(line, LINE_HAND) == hand) {
@@ -364,7 +364,7 @@ public final class ParishChest {
     }
 
     public int best(int what, int n) {
-        if (what < 0 || what > 3 || n < 0 || n > 1000) {
+        if (what < 0 || what > 3 || what == 3 && (n < 0 || n > 1000)) {
             return NONE;
         }
         souls.asKnown(LAST_DAY);
@@ -438,16 +438,16 @@ public final class ParishChest {
 
     public int text(int sort, int from, int known) {
         if (sort < 0 || sort > 1 || !isDay(from) || !isDay(known)) {
-            return refuse(NO_NUMBER);
+            return refuseTape(NO_NUMBER);
         }
         if (told.textCount >= MOST_TEXTS) {
-            return refuse(NO_ROOM);
+            return refuseTape(NO_ROOM);
         }
         Text text = clerk.read(sort, from, known);
-        tape.length = 0;
         if (text == null) {
-            return refuse(NO_TEXT);
+            return refuseTape(NO_TEXT);
         }
+        tape.length = 0;
         int number = told.textCount;
         told.texts[number] = text;
         told.textCount = number + 1;
@@ -966,6 +966,12 @@ public final class ParishChest {
     private int refuse(int why) {
         status = why;
         return why;
+    }
+
+    /** The TAPE is empty behind every line(), spell(), text(), whatever it was REFUSED by. */
+    private int refuseTape(int why) {
+        tape.length = 0;
+        return refuse(why);
     }
 
     private void learn(int line) {

@@ -206,7 +206,7 @@ final class Calls {
             case "kin": return new int[] {m, known(), pick(4), random.nextInt(3)};
             case "span": return new int[] {m, known(), pick(4)};
             case "wish": return new int[] {m};
-            case "best": return new int[] {pick(4), random.nextInt(20) == 0 ? 1001 : random.nextInt(60)};
+            case "best": return new int[] {pick(4), random.nextInt(10) == 0 ? random.nextInt(2) * 1002 - 1 : random.nextInt(60)};
             case "group": return new int[] {random.nextInt(9) - 1};
             case "join": return new int[] {told()};
             case "torn": return range(pick(6), told());

@@ -47,6 +47,12 @@ public final class JoiningTest {
         p.due("RIVALS", p.x.best(3, 1000), 1);
         p.due("n -1", p.x.best(3, -1), -1);
         p.due("n 1001", p.x.best(3, 1001), -1);
+        for (int n : new int[] {Integer.MIN_VALUE, -1, 1001, Integer.MAX_VALUE}) {
+            p.due("n is of RIVALS alone: WORTH", p.x.best(0, n), 0);
+            p.due("n is of RIVALS alone: groups", p.x.best(1, n), 0);
+            p.due("n is of RIVALS alone: BOUND", p.x.best(2, n), 0);
+            p.due("n is of RIVALS alone: what 4", p.x.best(4, n), -1);
+        }
         p.due("what -1", p.x.best(-1, 0), -1);
         p.due("what 4", p.x.best(4, 0), -1);
         p.due("group(0)", p.x.group(0), -1);
@@ -56,9 +62,9 @@ public final class JoiningTest {
     }
 
     private static void best(String what, int worth, int groups, int bound, int rivals) {
-        p.due(what + ": WORTH", p.x.best(0, 0), worth);
-        p.due(what + ": groups", p.x.best(1, 0), groups);
-        p.due(what + ": BOUND", p.x.best(2, 0), bound);
+        p.due(what + ": WORTH", p.x.best(0, -1), worth);
+        p.due(what + ": groups", p.x.best(1, 1001), groups);
+        p.due(what + ": BOUND", p.x.best(2, -7), bound);
         p.due(what + ": RIVALS", p.x.best(3, 0), rivals);
     }
 

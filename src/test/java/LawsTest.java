@@ -155,26 +155,30 @@ public final class LawsTest {
         p.goodText(nots + " poor");
     }
 
+    /** A TEXT that is REFUSED ahead of reading it: the TAPE is empty, fault() stays. */
+    private static void unreadText(String what, int why, int sort, int from, int known) {
+        p.refused(what, p.text(sort, from, known, "bad"), why);
+        p.due("the TAPE is empty behind " + what, p.x.count(8), 0);
+        p.due("nothing was read of " + what, p.x.fault(), 6);
+    }
+
     private static void textBounds() {
         p.fresh();
-        p.feed("badge");
-        p.refused("sort -1", p.x.text(-1, 0, 0), -1);
-        p.refused("sort 2", p.x.text(2, 0, 0), -1);
-        p.refused("from -1", p.x.text(0, -1, 0), -1);
-        p.refused("from 146400", p.x.text(0, 146400, 0), -1);
-        p.refused("known -1", p.x.text(0, 0, -1), -1);
-        p.refused("known 146400", p.x.text(0, 0, 146400), -1);
-        p.due("the TAPE stays", p.x.count(8), 5);
-        p.taken("text", p.x.text(1, 146399, 146399), 0);
+        p.badText("badge 3", 6);
+        unreadText("sort -1", -1, -1, 0, 0);
+        unreadText("sort 2", -1, 2, 0, 0);
+        unreadText("from -1", -1, 0, -1, 0);
+        unreadText("from 146400", -1, 0, 146400, 0);
+        unreadText("known -1", -1, 0, 0, -1);
+        unreadText("known 146400", -1, 0, 0, 146400);
+        p.taken("text", p.text(1, 146399, 146399, "badge"), 0);
         p.due("the TAPE is empty", p.x.count(8), 0);
         for (int n = 1; n < 30; n++) {
             p.due("text " + n, p.law("badge"), n);
         }
-        p.feed("bad");
-        p.refused("-1 first", p.x.text(2, 0, 0), -1);
-        p.refused("the 31st", p.x.text(0, 0, 0), -5);
-        p.due("the TAPE stays", p.x.count(8), 3);
-        p.due("nothing was read", p.x.fault(), -1);
+        p.spell(0, "abc > 3");
+        unreadText("-1 first", -1, 2, 0, 0);
+        unreadText("the 31st", -5, 0, 0, 0);
         p.due("count(1)", p.x.count(1), 30);
         p.due("count(4)", p.x.count(4), 30);
     }

@@ -765,7 +765,7 @@ final class Model {
     }
 
     private int best(int what, int n) {
-        if (!in(what, 0, 3) || !in(n, 0, 1000)) {
+        if (!in(what, 0, 3) || what == 3 && !in(n, 0, 1000)) {
             return -1;
         }
         int[] best = best();
@@ -1532,6 +1532,12 @@ final class Model {
     }
 
     private long read(String call, int[] a) {
+        long answer = readTape(call, a);
+        tape.clear();
+        return answer;
+    }
+
+    private long readTape(String call, int[] a) {
         boolean room = true;
         if (call.equals("line")) {
             if (!in(a[0], 0, 5) || !in(a[1], 0, 15) || !day(a[2], a[3]) || !fits(a[0], a[4])) {
@@ -1578,8 +1584,6 @@ final class Model {
         } catch (Fault f) {
             fault = f.at;
             return no(-6);
-        } finally {
-            tape.clear();
         }
     }
 

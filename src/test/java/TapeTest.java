@@ -158,25 +158,29 @@ public final class TapeTest {
         p.due("count(8) behind \"" + text + "\"", p.x.count(8), 0);
     }
 
+    /** A LINE that is REFUSED ahead of reading it: the TAPE is empty, fault() stays. */
+    private static void unreadLine(String what, int why, int book, int hand, int day, int known, int number) {
+        p.refused(what, p.line(book, hand, day, known, number, "3 is no LINE"), why);
+        p.due("the TAPE is empty behind " + what, p.x.count(8), 0);
+        p.due("nothing was read of " + what, p.x.fault(), 4);
+    }
+
     private static void lineBounds() {
         p.fresh();
-        p.feed("3 is no LINE");
-        p.refused("line(-1, ..)", p.x.line(-1, 0, 0, 0, -1), -1);
-        p.refused("line(6, ..)", p.x.line(6, 0, 0, 0, -1), -1);
-        p.refused("HAND -1", p.x.line(0, -1, 0, 0, -1), -1);
-        p.refused("HAND 16", p.x.line(0, 16, 0, 0, -1), -1);
-        p.refused("DAY -1", p.x.line(0, 0, -1, 0, -1), -1);
-        p.refused("DAY 146400", p.x.line(0, 0, 146400, 0, -1), -1);
-        p.refused("KNOWN -1", p.x.line(0, 0, 0, -1, -1), -1);
-        p.refused("KNOWN 146400", p.x.line(0, 0, 0, 146400, -1), -1);
+        p.refused("a LINE with a FAULT", p.line(2, 0, 0, 0, -1, "ann 3."), -6);
+        unreadLine("BOOK -1", -1, -1, 0, 0, 0, -1);
+        unreadLine("BOOK 6", -1, 6, 0, 0, 0, -1);
+        unreadLine("HAND -1", -1, 0, -1, 0, 0, -1);
+        unreadLine("HAND 16", -1, 0, 16, 0, 0, -1);
+        unreadLine("DAY -1", -1, 0, 0, -1, 0, -1);
+        unreadLine("DAY 146400", -1, 0, 0, 146400, 0, -1);
+        unreadLine("KNOWN -1", -1, 0, 0, 0, -1, -1);
+        unreadLine("KNOWN 146400", -1, 0, 0, 0, 146400, -1);
         int[][] bad = {{0, 0}, {0, -2}, {1, 0}, {1, 5}, {2, -2}, {2, 121}, {3, -1}, {3, 100001}, {4, -1}, {4, 100001},
             {5, 0}, {5, 12}, {5, -1}};
         for (int[] one : bad) {
-            p.refused("NUMBER " + one[1] + " of BOOK " + one[0], p.x.line(one[0], 0, 0, 0, one[1]), -1);
+            unreadLine("NUMBER " + one[1] + " of BOOK " + one[0], -1, one[0], 0, 0, 0, one[1]);
         }
-        p.due("the TAPE stays", p.x.count(8), 12);
-        p.due("nothing was read", p.x.fault(), -1);
-        p.x.end(0);
         int[][] good = {{0, -1}, {1, -1}, {2, -1}, {2, 0}, {2, 120}, {3, 0}, {3, 100000}, {4, 0}, {4, 100000}, {5, 1},
             {5, 11}};
         for (int n = 0; n < good.length; n++) {
@@ -187,11 +191,9 @@ public final class TapeTest {
         for (int n = good.length; n < 200; n++) {
             p.due("line " + n, p.line(2, 0, -1, "."), n);
         }
-        p.feed("3 is no LINE");
-        p.refused("-1 comes ahead of -5", p.x.line(6, 0, 0, 0, 0), -1);
-        p.refused("the 201st", p.x.line(2, 0, 0, 0, -1), -5);
-        p.due("the TAPE stays", p.x.count(8), 12);
-        p.due("nothing was read", p.x.fault(), -1);
+        p.spell(0, "abc 3");
+        unreadLine("-1 comes ahead of -5", -1, 6, 0, 0, 0, 0);
+        unreadLine("the 201st", -5, 2, 0, 0, 0, -1);
         p.due("count(0)", p.x.count(0), 200);
         p.due("count(4)", p.x.count(4), 200);
     }
@@ -289,12 +291,13 @@ public final class TapeTest {
         badSpelling("a>b,a>b,a>b,a>b,a>b,a>b,a>b,a>b,", 32);
         badSpelling("a>b,a>b,a>b,a>b,a>b,a>b,a>b,a>b, 9", 33);
         p.due("they stay", p.x.name(0, 0, 0), 'b');
-        p.feed("a>c");
-        p.refused("spell(16)", p.x.spell(16), -1);
-        p.refused("spell(-1)", p.x.spell(-1), -1);
-        p.due("the TAPE stays", p.x.count(8), 3);
+        p.refused("spell(16)", p.spell(16, "a>c"), -1);
+        p.due("the TAPE is empty behind spell(16)", p.x.count(8), 0);
+        p.refused("spell(-1)", p.spell(-1, "a>c"), -1);
+        p.due("the TAPE is empty behind spell(-1)", p.x.count(8), 0);
         p.due("fault() stays", p.x.fault(), 33);
-        p.taken("spell(0)", p.x.spell(0), 1);
+        p.due("SPELLINGS stay", p.x.name(0, 0, 0), 'b');
+        p.taken("spell(0)", p.spell(0, "a>c"), 1);
         p.due("fault() is none", p.x.fault(), -1);
         p.due("now", p.x.name(0, 0, 0), 'c');
     }
