@@ -98,25 +98,40 @@ public final class ChestTest {
         }
     }
 
-    private static void backToAll() {
+    /** IMAGE 3 of none, 1 of one, 0 of two of all that is told. */
+    private static void keepThree() {
         p.fresh();
         p.x.image(3);
+        tellAll(0);
+        p.x.acres(0, 0, 10);
+        p.x.image(1);
+        tellAll(1);
+        p.x.image(0);
+    }
+
+    private static void backToAll() {
+        p.fresh();
         long[] empty = askAll();
         tellAll(0);
         p.x.acres(0, 0, 10);
         long[] one = askAll();
-        p.x.image(1);
         tellAll(1);
         long[] two = askAll();
-        p.x.image(0);
+        keepThree();
+        same("two", askAll(), two);
         p.x.back(1);
         same("back to one", askAll(), one);
+        keepThree();
+        p.x.back(1);
         tellAll(1);
         same("told again", askAll(), two);
         p.x.back(3);
         same("back to none", askAll(), empty);
+        keepThree();
+        p.x.back(3);
         p.x.back(0);
         same("on to two", askAll(), two);
+        keepThree();
         p.x.back(1);
         p.x.alter(0, 4);
         p.due("found: two bits of two masks", p.x.found(10), 0);

@@ -20,6 +20,7 @@ public final class EdgesOfChestTest {
         altered();
         imagesOfAll();
         imagesStay();
+        imagesOfTexts();
         backAndTheTape();
         thingsInOrder();
         statusOfEach();
@@ -377,7 +378,7 @@ public final class EdgesOfChestTest {
         x.apart(1, 3);
         x.apart(0, 6);
         x.together(2, 4, 0);
-        x.torn(0, 40 * Y, 41 * Y, 0);
+        x.torn(3, 0, LAST, 0);
         Scene.text(x, 1, 0, 0, "relief 1;seat 1;strike 0 clause 1;badge if dead;turn warden 3");
         x.fact(0, 2, 9, 20 * Y, 20 * Y, 0);
         x.appeal(5, LAST, 0);
@@ -439,6 +440,29 @@ public final class EdgesOfChestTest {
         p.line(3, 0, 5, ".");
         p.due("THING 0 is a LINE now", p.x.as(0, 3), 0);
         p.due("and no HOLDING", p.x.as(0, 9), -3);
+    }
+
+    /** TEXTS told in the same places as others that an IMAGE has. */
+    private static void imagesOfTexts() {
+        p.fresh();
+        p.line(3, 0, 5, "ann lee.");
+        p.x.image(0);
+        p.law("seat 1;relief 1");
+        p.law("seat 2");
+        p.x.image(1);
+        p.x.back(0);
+        p.due("none", p.x.counts(7, 0, 0, 0, 0), Probe.NO_SUM);
+        p.due("no TEXT 0", p.x.force(0, 0, 0, 0), -1);
+        p.taken("another TEXT 0", p.law("badge"), 0);
+        p.due("it has one CLAUSE", p.x.force(0, 1, 0, 0), -1);
+        p.due("no seat", p.x.counts(7, 0, 0, 0, 0), Probe.NO_SUM);
+        p.x.image(2);
+        p.x.back(1);
+        p.due("the old ones", p.x.counts(7, 0, 0, 0, 0), 2);
+        p.due("the old TEXT 0", p.x.counts(3, 0, 0, 0, 1), 1);
+        p.x.back(2);
+        p.due("the other one", p.x.force(0, 1, 0, 0), -1);
+        p.due("alone", p.x.count(1), 1);
     }
 
     /** "(The TAPE is empty then, WISHES are none, terms, SPELLINGS, ACRES stay.)" */

@@ -18,6 +18,7 @@ public final class EdgesOfSoulsTest {
         kinIsAnotherRole();
         kinByFamilies();
         kinOfLateLines();
+        kinOfOtherLines();
         soulsInOrder();
         waitsTillThatIsSoNoMore();
         apartForAllDays();
@@ -306,13 +307,39 @@ public final class EdgesOfSoulsTest {
             for (int a : at) {
                 one = one || a == n;
             }
-            p.line(one ? 0 : 3, 20 * Y, one ? -1 : 5, one ? "?, bob lee, eve lee." : ".");
+            if (one) {
+                p.line(0, 20 * Y, -1, "?, bob lee, eve lee.");
+            } else {
+                p.x.line(3, 0, 20 * Y, 20 * Y, 5);
+            }
         }
         for (int a : at) {
             for (int b : at) {
                 if (a != b) {
                     p.due("fathers of " + a + " and " + b, p.x.worth(a * 3 + 1, b * 3 + 1), 100);
                     p.due("mothers of " + a + " and " + b, p.x.worth(a * 3 + 2, b * 3 + 2), 100);
+                }
+            }
+        }
+    }
+
+    /** "another ROLE of the one's LINE": not of the LINES beside it. */
+    private static void kinOfOtherLines() {
+        p.fresh();
+        p.x.terms(0, 0, 0, 100, 0);
+        int[] alone = {1, 4, 20, 35, 36};
+        for (int n = 0; n < 40; n++) {
+            boolean one = false;
+            for (int a : alone) {
+                one = one || a == n;
+            }
+            p.line(0, 20 * Y, -1, one ? "?, bob lee, ?." : "?, bob lee, eve lee.");
+        }
+        for (int a : alone) {
+            for (int n = 0; n < 40; n += 3) {
+                if (a != n) {
+                    p.due("fathers of " + a + " and " + n, p.x.worth(a * 3 + 1, n * 3 + 1), 0);
+                    p.due("fathers of " + n + " and " + a, p.x.worth(n * 3 + 1, a * 3 + 1), 0);
                 }
             }
         }

@@ -68,6 +68,7 @@ public final class LawsTest {
         p.badText("fee", 3);
         p.badText("fee poor 1", 4);
         p.badText("fee bell", 8);
+        p.fresh();
         p.badText("seat", 4);
         p.badText("seat -1", 5);
         p.badText("seat 1 +", 8);
@@ -85,6 +86,7 @@ public final class LawsTest {
         p.badText("strike 1 clause", 15);
         p.badText("strike 1 clause 12", 16);
         p.badText("strike 1 clause 1 if poor", 18);
+        p.fresh();
         p.badText("badge if", 8);
         p.badText("badge if if", 9);
         p.badText("badge if value", 14);

@@ -134,13 +134,13 @@ public final class RefusedTest {
     }
 
     private static void torn() {
-        int[] good = {0, 40 * 366 - 5, 40 * 366 + 5, 0};
+        int[] good = {3, 30 * 366 - 5, 30 * 366 + 5, 0};
         wrong("torn", -1, good, 0, -1, 6, MIN, MAX);
         wrong("torn", -1, good, 1, NO_DAYS);
         wrong("torn", -1, good, 2, NO_DAYS);
         wrong("torn", -1, good, 3, NO_DAYS);
-        wrong("torn", -1, good, 2, 40 * 366 - 6);
-        wrong("torn", -1, good, 1, 40 * 366 + 6);
+        wrong("torn", -1, good, 2, 30 * 366 - 6);
+        wrong("torn", -1, good, 1, 30 * 366 + 6);
     }
 
     /** "-1 (to ahead of from, too); -2; -5." */

@@ -12,6 +12,9 @@ public final class RobustTest {
             + " appeal holding value split hold house levy owe pay arrear turn entry close balance beyond badge seat fee"
             + " acres price coin seal alter found image back as count status").split(" ");
 
+    private static final String ASKS = " fault of name piece reason worth waits soul mentions kin span best group fill force holds"
+            + " counts about belong order house owe arrear turn balance beyond badge seat fee coin found as count status ";
+
     public static void main(String[] args) {
         for (long seed = 1; seed <= 60; seed++) {
             wild(seed);
@@ -105,44 +108,41 @@ public final class RobustTest {
     /** What was worked out on the way changes nothing: the told calls alone lead to the same answers. */
     private static boolean replayed(long seed) {
         Calls calls = new Calls(seed * 1000);
+        ParishChest guide = new ParishChest();
         ParishChest x = new ParishChest();
         List<Object[]> told = new ArrayList<>();
-        for (int n = 0; n < 400; n++) {
-            String name = calls.next(x);
-            int[] a = calls.arguments(name, x);
+        for (int n = 0; n < 160; n++) {
+            String name = calls.next(guide);
+            int[] a = calls.arguments(name, guide);
             if (name.equals("fill")) {
-                calls.fillDays(a, x);
+                calls.fillDays(a, guide);
             }
-            String text = calls.textFor(name);
-            if (text != null) {
-                Probe.feed(x, text);
-            }
-            long got = Calls.put(x, name, a);
-            if (n % 20 == 19) {
+            Object[] one = {name, a, calls.textFor(name)};
+            put(guide, one);
+            long got = put(x, one);
+            if (n % 10 == 9) {
                 ParishChest other = new ParishChest();
-                for (Object[] one : told) {
-                    if (one[2] != null) {
-                        Probe.feed(other, (String) one[2]);
-                    }
-                    Calls.put(other, (String) one[0], (int[]) one[1]);
+                for (Object[] ahead : told) {
+                    put(other, ahead);
                 }
-                if (text != null) {
-                    Probe.feed(other, text);
-                }
-                long again = Calls.put(other, name, a);
+                long again = put(other, one);
                 if (got != again) {
                     System.out.println("run " + seed + ", call " + n + ": " + name + " answered " + got
                             + ", but " + again + " in a chest that was asked nothing ahead");
                     return false;
                 }
             }
-            boolean asks = " fault of name piece reason worth waits soul mentions kin span best group fill force holds counts"
-                    .concat(" about belong order house owe arrear turn balance beyond badge seat fee coin found as count status ")
-                    .contains(" " + name + " ");
-            if (!asks) {
-                told.add(new Object[] {name, a, text});
+            if (!ASKS.contains(" " + name + " ")) {
+                told.add(one);
             }
         }
         return true;
+    }
+
+    private static long put(ParishChest x, Object[] one) {
+        if (one[2] != null) {
+            Probe.feed(x, (String) one[2]);
+        }
+        return Calls.put(x, (String) one[0], (int[]) one[1]);
     }
 }

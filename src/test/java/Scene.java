@@ -8,7 +8,7 @@ import java.util.List;
 final class Scene {
     static final int Y = 366;
     static final int LAST = 146399;
-    private static final int[] MENTIONS = {0, 1, 2, 3, 4, 6, 9, 12, 15, 18, 19, 20, 21};
+    private static final int[] MENTIONS = {0, 1, 2, 4, 6, 9, 12, 18, 20, 21};
 
     private Scene() {
     }
@@ -78,7 +78,7 @@ final class Scene {
         }
         all.add((long) x.fault());
         for (int line = 0; line < 8; line++) {
-            for (int what = 0; what < 5; what++) {
+            for (int what = 2; what < 5; what++) {
                 all.add((long) x.of(line, what));
             }
             all.add((long) x.as(line + 3, 6));
@@ -134,6 +134,8 @@ final class Scene {
             all.add((long) x.balance(2, year, k));
         }
         all.add((long) x.beyond(4, k));
+        // One LINE on the DAYS around: PAGES of those DAYS are seen.
+        all.add((long) x.fill(3, 30 * Y + 1, 30 * Y + 5000, k, 2));
     }
 
     private static void askOnDay(ParishChest x, int d, int k, List<Long> all) {

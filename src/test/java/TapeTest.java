@@ -188,8 +188,9 @@ public final class TapeTest {
                     p.line(good[n][0], 15, 146399, 146399, good[n][1], "."), n);
             p.due("of(NUMBER)", p.x.of(n, 3), good[n][1]);
         }
-        for (int n = good.length; n < 200; n++) {
-            p.due("line " + n, p.line(2, 0, -1, "."), n);
+        p.fresh();
+        for (int n = 0; n < 200; n++) {
+            p.due("line " + n, p.x.line(2, 0, 0, 0, -1), n);
         }
         p.spell(0, "abc 3");
         unreadLine("-1 comes ahead of -5", -1, 6, 0, 0, 0, 0);
