@@ -8,6 +8,8 @@ final class Calls {
             + " of name piece reason worth waits soul mentions kin span best best group fill force holds counts counts about"
             + " about belong belong order house house owe owe arrear turn turn balance beyond badge seat fee coin found as"
             + " count status fault feed end").split(" ");
+    private static final String[] FILLING = ("line line text apart together torn fact appeal holding split value hold levy pay entry"
+            + " close price").split(" ");
     private static final String[] GIVEN = {"ann", "anna", "an-", "?", "eve", "bob", "ann", "ev"};
     private static final String[] FAMILY = {"lee", "lea", "le-", "?", "fox", "lee", "lee"};
     private static final String[] SPELLINGS = {"e>a", "nn>n", "a>", "v>b,ee>ea", "", "x>ks,o>", "abcd>e", "a>b c", "l>fo,n>"};
@@ -16,6 +18,7 @@ final class Calls {
     private final int[] days = new int[10];
     private final int houses;
     private final int years;
+    private final String[] names;
 
     Calls(long seed) {
         random = new Random(seed);
@@ -25,6 +28,23 @@ final class Calls {
         for (int i = 0; i < days.length; i++) {
             days[i] = random.nextInt(spread * 366);
         }
+        names = seed % 4 == 3 ? few() : NAMES;
+    }
+
+    /** Few kinds of what is told, many times, so that its room is filled; and some that ask. */
+    private String[] few() {
+        String[] row = new String[80];
+        for (int kind = 0; kind < 3; kind++) {
+            String name = FILLING[random.nextInt(FILLING.length)];
+            for (int n = 0; n < 18; n++) {
+                row[kind * 18 + n] = name;
+            }
+        }
+        for (int n = 54; n < 80; n++) {
+            row[n] = n < 58 ? "line" : n < 60 ? "holding" : n == 60 ? "image" : n == 61 ? "back" : n == 62 ? "levy"
+                    : NAMES[random.nextInt(NAMES.length)];
+        }
+        return row;
     }
 
     /** Sometimes the whole day. */
@@ -81,7 +101,10 @@ final class Calls {
     }
 
     String next(ParishChest x) {
-        String name = NAMES[random.nextInt(NAMES.length)];
+        String name = names[random.nextInt(names.length)];
+        if (names != NAMES) {
+            return name.equals("back") && random.nextInt(8) > 0 ? "status" : name;
+        }
         boolean skip = name.equals("line") && x.count(0) >= 30 && random.nextInt(10) > 0
                 || (name.equals("holding") || name.equals("split")) && x.count(3) >= houses && random.nextInt(10) > 0
                 || name.equals("text") && x.count(1) >= 8 && random.nextInt(10) > 0
