@@ -17,10 +17,13 @@ public final class EdgesOfChestTest {
         sealedSums();
         foundPlaces();
         foundNone();
+        foundNoPlace();
         altered();
         imagesOfAll();
         imagesStay();
         imagesOfTexts();
+        backToFewerLines();
+        backToFewerHoldings();
         backAndTheTape();
         thingsInOrder();
         statusOfEach();
@@ -334,6 +337,28 @@ public final class EdgesOfChestTest {
         p.due("of 0 pence, but it came since", p.x.found(5), -2);
     }
 
+    /** Sums that are right for no place: one behind the last, 0, one below 0, one between two. */
+    private static void foundNoPlace() {
+        for (int year = 0; year < 400; year += 399) {
+            int[][] masks = {{1, 2, 0}, {1, 1, 0}, {3, 1, 0}, {1, 2, 1}, {2, 1, 2}};
+            for (int[] one : masks) {
+                p.fresh();
+                p.line(3, year * Y, 0, ".");
+                p.line(3, year * Y, 2, ".");
+                p.x.seal(year);
+                p.x.alter(0, one[0]);
+                p.x.alter(1, one[1]);
+                int a = (0 ^ one[0]) - 0;
+                int b = (2 ^ one[1]) - 2;
+                int want = -2;
+                for (int place = 1; place <= 2; place++) {
+                    want = a + b != 0 && (a + b) * place == a + 2 * b ? place - 1 : want;
+                }
+                p.due("off by " + a + " and " + b + " in YEAR " + year, p.x.found(year), want);
+            }
+        }
+    }
+
     /** "(No bound is asked of it any more. It may be NONE: status() tells.)" */
     private static void altered() {
         p.fresh();
@@ -463,6 +488,63 @@ public final class EdgesOfChestTest {
         p.x.back(2);
         p.due("the other one", p.x.force(0, 1, 0, 0), -1);
         p.due("alone", p.x.count(1), 1);
+    }
+
+    /** BACK to fewer LINES nothing is seen of those that came behind them. */
+    private static void backToFewerLines() {
+        p.fresh();
+        p.line(0, 20 * Y, -1, "ann lee, bob lee, eve lee.");
+        p.line(1, 18 * Y, -1, "bob lee, eve lee.");
+        p.x.together(1, 3, 0);
+        p.x.image(0);
+        p.line(0, 21 * Y, -1, "tom lee, bob lee, eve lee.");
+        p.line(1, 22 * Y, -1, "bob lee, sue fox.");
+        p.line(4, 21 * Y, 5, "bob lee.");
+        p.x.together(1, 7, 0);
+        p.x.together(1, 9, 0);
+        p.x.together(1, 12, 0);
+        for (int turn = 0; turn < 2; turn++) {
+            p.due("the second child", p.x.kin(1, LAST, 2, 1), turn == 0 ? 6 : -1);
+            p.due("the second spouse", p.x.kin(1, LAST, 3, 1), turn == 0 ? 10 : -1);
+            p.due("children", p.x.about(1, 22 * Y, LAST, 1), turn == 0 ? 2 : 1);
+            p.due("relieved", p.x.about(1, 21 * Y, LAST, 4), turn == 0 ? 5 : 0);
+            p.due("MENTIONS", p.x.mentions(1, LAST, 0, 0), turn == 0 ? 5 : 2);
+            p.due("SOULS without a burial", p.x.fill(2, 0, LAST, LAST, 0), turn == 0 ? 7 : 4);
+            p.due("SOULS without a birth", p.x.fill(0, 0, LAST, LAST, 0), turn == 0 ? 5 : 3);
+            p.due("MOST", p.x.fill(0, 0, 400, LAST, 1) >= 2 ? 1 : 0, turn == 0 ? 1 : 0);
+            p.due("LINES of YEAR 21", p.x.seal(21), turn == 0 ? 2 : 0);
+            p.due("LINE 2", p.x.of(2, 0), turn == 0 ? 0 : -2);
+            p.due("MENTION 6", p.x.soul(6, LAST), turn == 0 ? 6 : -1);
+            p.x.back(0);
+        }
+    }
+
+    /** BACK to fewer HOLDINGS nothing is seen of those that came behind them. */
+    private static void backToFewerHoldings() {
+        p.fresh();
+        p.line(3, 0, 5, "ann lee.");
+        p.x.holding();
+        p.x.value(0, 10, 0, 0);
+        p.x.hold(0, 0, 0, 0);
+        p.x.levy(0, 0, 100, 0);
+        p.law("turn warden 0;seat value");
+        p.x.image(0);
+        p.x.holding();
+        p.x.value(1, 30, 0, 0);
+        p.x.hold(1, 0, 0, 0);
+        p.x.split(1, 1, 3, 0, 0);
+        for (int turn = 0; turn < 2; turn++) {
+            p.due("value", p.x.about(0, 0, 0, 2), turn == 0 ? 40 : 10);
+            p.due("owes", p.x.owe(0, 0, 0), turn == 0 ? 25 : 100);
+            p.due("all owe", p.x.owe(0, -1, 0), 100);
+            p.due("SEATS", p.x.seat(0, 0, -1), turn == 0 ? 3 : 1);
+            p.due("SEAT 0", p.x.seat(0, 0, 0), 0);
+            p.due("SEAT 1", p.x.seat(0, 0, 1), turn == 0 ? 1 : -1);
+            p.due("TURN of YEAR 1", p.x.turn(3, 1, 0, 0), turn == 0 ? 1 : 0);
+            p.due("uneven", p.x.turn(3, 1, 0, 2), turn == 0 ? 1 : 0);
+            p.due("HOLDING 1", p.x.house(1, 0, 0, 0), turn == 0 ? 20 : -1);
+            p.x.back(0);
+        }
     }
 
     /** "(The TAPE is empty then, WISHES are none, terms, SPELLINGS, ACRES stay.)" */

@@ -27,6 +27,9 @@ public final class EdgesOfLawsTest {
         comparisons();
         brokenTests();
         brokenOnes();
+        brokenThenWhole();
+        longTexts();
+        knownOneByOne();
         countsInOrder();
         quarrels();
         p.finish("EdgesOfLawsTest");
@@ -456,6 +459,64 @@ public final class EdgesOfLawsTest {
         }
         p.due("the last that HOLDS COUNTS", p.x.counts(7, 0, 0, 0, 1), 8);
         p.due("of those that HOLD one QUARRELS", p.x.counts(7, 0, 0, 0, 2), 1);
+    }
+
+    /** A SUM that is BROKEN is nothing to a CLAUSE without one that is asked behind it. */
+    private static void brokenThenWhole() {
+        p.fresh();
+        p.line(4, 0, 5, "ann lee.");
+        p.x.holding();
+        p.x.value(0, 10, 0, 0);
+        p.x.hold(0, 0, 0, 0);
+        p.x.levy(2, 0, 100, 0);
+        p.x.fact(0, 0, 7, 0, 0, 0);
+        p.law("seat 1 / 0;badge;rate poor 1 / 0;belong birth;fee bell 1 / 0;turn warden 0;relief 1 / 0;exempt poor");
+        int[] want = {0, 1, 0, 1, 0, 1, 0, 1};
+        for (int c = 0; c < 8; c++) {
+            p.due("CLAUSE " + c, p.x.holds(0, c, 0, 0, 0), want[c]);
+        }
+        p.due("no seat", p.x.counts(7, 0, 0, 0, 0), Probe.NO_SUM);
+        p.due("BADGE", p.x.badge(0, 0, 0), 1);
+        p.due("no rate", p.x.counts(2, 0, 0, 0, 0), Probe.NO_SUM);
+        p.due("BELONGS", p.x.belong(0, 0, 0, 0), 7);
+        p.due("no fee", p.x.counts(4, 0, 0, 0, 0), Probe.NO_SUM);
+        p.due("TURN", p.x.turn(3, 0, 0, 0), 0);
+        p.due("no relief", p.x.counts(3, 0, 0, 0, 0), Probe.NO_SUM);
+        p.due("exempt", p.x.owe(0, 0, 0), 0);
+    }
+
+    /** Thirty TEXTS of as many PARTS as there may be. */
+    private static void longTexts() {
+        p.fresh();
+        p.line(3, 0, 5, "ann lee.");
+        for (int t = 0; t < 30; t++) {
+            StringBuilder text = new StringBuilder("seat ").append(t);
+            for (int n = 1; n < 58; n++) {
+                text.append("+1");
+            }
+            p.due("TEXT " + t, p.law(text + " if 1<2"), t);
+            p.due("its SUM", p.x.counts(7, 0, 0, 0, 0), t + 57);
+        }
+        p.due("all others QUARREL", p.x.counts(7, 0, 0, 0, 2), 29);
+        for (int t = 0; t < 30; t++) {
+            p.due("TEXT " + t + " HOLDS", p.x.holds(t, 0, 0, 0, 0), 1);
+        }
+    }
+
+    /** The DAY ahead of that on which a TEXT is known, then that DAY, whatever number of calls came ahead. */
+    private static void knownOneByOne() {
+        for (int ahead = 0; ahead < 6; ahead++) {
+            for (int known = 1; known < 10; known++) {
+                p.fresh();
+                for (int n = 0; n < ahead; n++) {
+                    p.x.terms(0, 0, 0, 0, n);
+                }
+                p.text(0, 0, known, "badge");
+                p.due("as known on " + (known - 1), p.x.force(0, 0, 5, known - 1), 0);
+                p.due("as known on " + known, p.x.force(0, 0, 5, known), 1);
+                p.due("as known on " + (known - 1) + " again", p.x.force(0, 0, 5, known - 1), 0);
+            }
+        }
     }
 
     /** "the last one in order: LAWS first, then WORDS, as they were told." */

@@ -272,6 +272,19 @@ public final class EdgesOfLinesTest {
             p.refused("13 of \"" + longer[n] + "\"", p.line(1, 0, -1, longer[n]), -6);
             p.due("FAULT of \"" + longer[n] + "\"", p.x.fault(), places[n]);
         }
+        p.taken("six of 12", p.line(0, 0, -1, twelve + " " + twelve + "," + twelve + " " + twelve + "," + twelve + " " + twelve + "."), 2);
+        for (int m = 6; m < 9; m++) {
+            for (int which = 0; which < 2; which++) {
+                p.due("NAME " + which + " of " + m, p.x.name(m, which, -1), 12);
+                p.due("its last letters", p.x.piece(m, which, 10, 2), 11 * 27 + 12);
+            }
+        }
+        p.taken("six of 1", p.line(0, 0, -1, "a b,c d,e f."), 3);
+        for (int m = 9; m < 12; m++) {
+            p.due("given of " + m, p.x.piece(m, 0, 0, 1), (m - 9) * 2 + 1);
+            p.due("family's of " + m, p.x.piece(m, 1, 0, 1), (m - 9) * 2 + 2);
+            p.due("no more", p.x.piece(m, 1, 0, 2), -3);
+        }
         StringBuilder row = new StringBuilder();
         while (row.length() < 400) {
             row.append('a');

@@ -26,6 +26,8 @@ public final class EdgesOfSoulsTest {
         groupsOfJoinings();
         rivals();
         joinOfTheBest();
+        greatestWorth();
+        clearedAtFirst();
         spanOfOne();
         spanOfMore();
         spanBelowAndAbove();
@@ -38,6 +40,7 @@ public final class EdgesOfSoulsTest {
         guessedLines();
         guessedPages();
         guessedRounded();
+        filledOfAnEmptyChest();
         p.finish("EdgesOfSoulsTest");
     }
 
@@ -494,6 +497,39 @@ public final class EdgesOfSoulsTest {
         p.due("RIVALS without WISHES", p.x.best(3, 0), 1);
     }
 
+    /** Nine of whom all pairs have GIVEN, FAMILY and KIN of 100 each. */
+    private static void greatestWorth() {
+        p.fresh();
+        p.x.terms(100, 100, 100, 100, 20);
+        for (int n = 0; n < 9; n++) {
+            p.line(0, 20 * Y + n, -1, "?, bob lee, eve lee.");
+            p.x.wish(n * 3 + 1);
+        }
+        p.due("WORTH", p.x.best(0, 0), 36 * 300);
+        p.due("BOUND", p.x.best(2, 0), 36 * 300);
+        p.due("groups", p.x.best(1, 0), 1);
+        p.due("RIVALS within 1000", p.x.best(3, 1000), 1);
+        p.taken("join", p.x.join(0), 8);
+        p.due("one SOUL of nine", p.x.mentions(25, LAST, 0, 0), 9);
+    }
+
+    /** "Without WISHES 0, 0, 0, 1": on a new object, cleared though nothing was wished. */
+    private static void clearedAtFirst() {
+        p.fresh();
+        p.due("clear()", p.x.clear(), 0);
+        int[] want = {0, 0, 0, 1};
+        for (int what = 0; what < 4; what++) {
+            p.due("best(" + what + ", 0)", p.x.best(what, 0), want[what]);
+        }
+        p.line(3, 0, 5, ".");
+        p.x.wish(0);
+        p.due("groups of one", p.x.best(1, 0), 1);
+        p.due("clear()", p.x.clear(), 1);
+        for (int what = 0; what < 4; what++) {
+            p.due("best(" + what + ", 1000)", p.x.best(what, 1000), want[what]);
+        }
+    }
+
     // ---- SPANS
 
     private static void span(String what, int mention, int b, int c, int e, int f) {
@@ -682,6 +718,24 @@ public final class EdgesOfSoulsTest {
             p.x.torn(4, 0, LAST, 0);
             p.due("TORN " + one[0] + " .. " + one[1], p.x.fill(3, 0, 9, 50, 1), one[2]);
             p.due("TORN as known a DAY ahead", p.x.fill(3, 0, 9, 49, 1), 2);
+        }
+    }
+
+    /** No LINES, no SOULS: 0 of all, and so behind BACK to that. */
+    private static void filledOfAnEmptyChest() {
+        p.fresh();
+        p.x.image(0);
+        for (int turn = 0; turn < 2; turn++) {
+            for (int book = 0; book < 6; book++) {
+                for (int what = 0; what < 3; what++) {
+                    p.due("fill of BOOK " + book + ", what " + what, p.x.fill(book, 0, LAST, LAST, what), 0);
+                    p.due("of some DAYS", p.x.fill(book, 10, 200 * Y, LAST, what), 0);
+                }
+            }
+            p.line(3, 100, 5, ".");
+            p.due("one who paid and died", p.x.fill(2, 0, LAST, LAST, 0), 1);
+            p.due("one who paid and was born", p.x.fill(0, 0, LAST, LAST, 0), 1);
+            p.x.back(0);
         }
     }
 
