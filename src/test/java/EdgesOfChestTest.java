@@ -495,26 +495,30 @@ public final class EdgesOfChestTest {
         p.fresh();
         p.line(0, 20 * Y, -1, "ann lee, bob lee, eve lee.");
         p.line(1, 18 * Y, -1, "bob lee, eve lee.");
+        for (int n = 0; n < 4; n++) {
+            p.line(5, 0, 0, LAST, 5, ".");
+        }
         p.x.together(1, 3, 0);
         p.x.image(0);
         p.line(0, 21 * Y, -1, "tom lee, bob lee, eve lee.");
         p.line(1, 22 * Y, -1, "bob lee, sue fox.");
         p.line(4, 21 * Y, 5, "bob lee.");
-        p.x.together(1, 7, 0);
-        p.x.together(1, 9, 0);
-        p.x.together(1, 12, 0);
+        p.x.together(1, 19, 0);
+        p.x.together(1, 21, 0);
+        p.x.together(1, 24, 0);
+        int known = 100 * Y;
         for (int turn = 0; turn < 2; turn++) {
-            p.due("the second child", p.x.kin(1, LAST, 2, 1), turn == 0 ? 6 : -1);
-            p.due("the second spouse", p.x.kin(1, LAST, 3, 1), turn == 0 ? 10 : -1);
-            p.due("children", p.x.about(1, 22 * Y, LAST, 1), turn == 0 ? 2 : 1);
-            p.due("relieved", p.x.about(1, 21 * Y, LAST, 4), turn == 0 ? 5 : 0);
-            p.due("MENTIONS", p.x.mentions(1, LAST, 0, 0), turn == 0 ? 5 : 2);
-            p.due("SOULS without a burial", p.x.fill(2, 0, LAST, LAST, 0), turn == 0 ? 7 : 4);
-            p.due("SOULS without a birth", p.x.fill(0, 0, LAST, LAST, 0), turn == 0 ? 5 : 3);
-            p.due("MOST", p.x.fill(0, 0, 400, LAST, 1) >= 2 ? 1 : 0, turn == 0 ? 1 : 0);
-            p.due("LINES of YEAR 21", p.x.seal(21), turn == 0 ? 2 : 0);
-            p.due("LINE 2", p.x.of(2, 0), turn == 0 ? 0 : -2);
-            p.due("MENTION 6", p.x.soul(6, LAST), turn == 0 ? 6 : -1);
+            boolean all = turn == 0;
+            p.due("the second child", p.x.kin(1, known, 2, 1), all ? 18 : -1);
+            p.due("the second spouse", p.x.kin(1, known, 3, 1), all ? 22 : -1);
+            p.due("children", p.x.about(1, 22 * Y, known, 1), all ? 2 : 1);
+            p.due("relieved", p.x.about(1, 21 * Y, known, 4), all ? 5 : 0);
+            p.due("MENTIONS", p.x.mentions(1, known, 0, 0), all ? 5 : 2);
+            p.due("SOULS without a burial", p.x.fill(2, 0, LAST, known, 0), all ? 7 : 4);
+            p.due("SOULS without a birth", p.x.fill(0, 0, LAST, known, 0), all ? 5 : 3);
+            p.due("LINES of YEAR 21", p.x.seal(21), all ? 2 : 0);
+            p.due("LINE 6", p.x.of(6, 0), all ? 0 : -2);
+            p.due("MENTION 18", p.x.soul(18, known), all ? 18 : -1);
             p.x.back(0);
         }
     }
@@ -523,26 +527,32 @@ public final class EdgesOfChestTest {
     private static void backToFewerHoldings() {
         p.fresh();
         p.line(3, 0, 5, "ann lee.");
-        p.x.holding();
-        p.x.value(0, 10, 0, 0);
-        p.x.hold(0, 0, 0, 0);
-        p.x.levy(0, 0, 100, 0);
-        p.law("turn warden 0;seat value");
-        p.x.image(0);
-        p.x.holding();
-        p.x.value(1, 30, 0, 0);
-        p.x.hold(1, 0, 0, 0);
-        p.x.split(1, 1, 3, 0, 0);
+        p.line(3, 0, 5, "bob lee.");
+        for (int h = 0; h < 4; h++) {
+            if (h == 3) {
+                p.x.levy(0, 0, 8, 0);
+                p.law("turn warden 0;seat value");
+                p.x.image(0);
+            }
+            p.x.holding();
+            p.x.value(h, h == 3 ? 7 : 1, 0, 0);
+            p.x.hold(h, h == 3 ? 3 : 0, 0, 0);
+        }
+        int[][] owed = {{1, 1, 1, 5}, {3, 3, 2, -1}};
         for (int turn = 0; turn < 2; turn++) {
-            p.due("value", p.x.about(0, 0, 0, 2), turn == 0 ? 40 : 10);
-            p.due("owes", p.x.owe(0, 0, 0), turn == 0 ? 25 : 100);
-            p.due("all owe", p.x.owe(0, -1, 0), 100);
-            p.due("SEATS", p.x.seat(0, 0, -1), turn == 0 ? 3 : 1);
-            p.due("SEAT 0", p.x.seat(0, 0, 0), 0);
-            p.due("SEAT 1", p.x.seat(0, 0, 1), turn == 0 ? 1 : -1);
-            p.due("TURN of YEAR 1", p.x.turn(3, 1, 0, 0), turn == 0 ? 1 : 0);
-            p.due("uneven", p.x.turn(3, 1, 0, 2), turn == 0 ? 1 : 0);
-            p.due("HOLDING 1", p.x.house(1, 0, 0, 0), turn == 0 ? 20 : -1);
+            boolean all = turn == 0;
+            for (int h = 0; h < 4; h++) {
+                p.due("HOLDING " + h + " owes", p.x.owe(0, h, 0), owed[turn][h]);
+            }
+            p.due("all owe", p.x.owe(0, -1, 0), 8);
+            p.due("value", p.x.about(3, 0, 0, 2), all ? 7 : 0);
+            p.due("value of the other", p.x.about(0, 0, 0, 2), 3);
+            p.due("SEATS", p.x.seat(0, 0, -1), all ? 4 : 3);
+            p.due("SEAT 0", p.x.seat(0, 0, 0), all ? 3 : 0);
+            p.due("SEAT 3", p.x.seat(0, 0, 3), all ? 2 : -1);
+            p.due("TURN of YEAR 3", p.x.turn(3, 3, 0, 0), all ? 3 : 0);
+            p.due("uneven", p.x.turn(3, 3, 0, 2), all ? 0 : 1);
+            p.due("HOLDING 3", p.x.house(3, 0, 0, 0), all ? 7 : -1);
             p.x.back(0);
         }
     }
