@@ -96,6 +96,15 @@ final class Calls {
         return pick(x.count(0));
     }
 
+    /** Mostly a LINE of one of two BOOKS, if there is any. */
+    private int lineOfBooks(ParishChest x, int one, int other) {
+        int line = lineOf(x);
+        for (int n = 0; n < 40 && random.nextInt(20) > 0 && x.of(line, 0) != one && x.of(line, 0) != other; n++) {
+            line = lineOf(x);
+        }
+        return line;
+    }
+
     private int houseOf(ParishChest x) {
         return pick(x.count(3));
     }
@@ -242,7 +251,7 @@ final class Calls {
                 int[] r = range(0, 0);
                 return new int[] {m, pick(5), random.nextInt(5), r[1], r[2], told()};
             case "belong": return new int[] {m, day(), known(), pick(3)};
-            case "order": return new int[] {lineOf(x), known(), pick(3)};
+            case "order": return new int[] {lineOfBooks(x, 5, 5), known(), pick(3)};
             default: return moreArguments(name, x, h, m);
         }
     }
@@ -250,7 +259,7 @@ final class Calls {
     private int[] moreArguments(String name, ParishChest x, int h, int m) {
         int levy = pick(x.count(5));
         switch (name) {
-            case "appeal": return new int[] {lineOf(x), random.nextInt(3) == 0 ? day() : 146399, told()};
+            case "appeal": return new int[] {lineOfBooks(x, 5, 5), random.nextInt(3) == 0 ? day() : 146399, told()};
             case "value": return new int[] {h, random.nextInt(random.nextBoolean() ? 30 : 10200), told(), told()};
             case "split":
                 int b = 1 + random.nextInt(101);
@@ -272,9 +281,11 @@ final class Calls {
                 }
                 return new int[] {office, y, random.nextInt(10) == 0 ? 1 : x.balance(office, y, on), on};
             case "balance": return new int[] {pick(3), year() % 10, known()};
-            case "beyond":
-            case "fee": return new int[] {lineOf(x), known()};
-            case "badge": return new int[] {m, day(), known()};
+            case "beyond": return new int[] {lineOfBooks(x, 4, 4), known()};
+            case "fee": return new int[] {lineOfBooks(x, 1, 2), known()};
+            case "badge":
+                int relief = lineOfBooks(x, 4, 4);
+                return new int[] {relief * 3, Math.min(146399, Math.max(0, x.of(relief, 2)) + random.nextInt(367)), known()};
             case "seat": return new int[] {day(), known(), random.nextInt(6) - 1};
             case "acres": return new int[] {h, pick(3), random.nextInt(1002)};
             case "price": return new int[] {pick(3), year(), random.nextInt(100), told()};
