@@ -21,8 +21,11 @@ public final class EdgesOfSoulsTest {
         kinOfOtherLines();
         soulsInOrder();
         waitsTillThatIsSoNoMore();
+        toldTwiceWhileWaiting();
         apartForAllDays();
         kinOfUnknownRoles();
+        childrenOfUnknownRoles();
+        spousesByLines();
         groupsOfJoinings();
         rivals();
         joinOfTheBest();
@@ -390,6 +393,63 @@ public final class EdgesOfSoulsTest {
         p.due("not by an AGE of 40", p.x.soul(3, LAST), 0);
         p.x.apart(3, 0);
         p.due("APART", p.x.waits(LAST, -1), 1);
+    }
+
+    /** A TOGETHER of two that are one SOUL by then already makes nothing, and does not wait. */
+    private static void toldTwiceWhileWaiting() {
+        p.fresh();
+        p.line(0, 10 * Y, -1, "ann lee.");
+        p.line(2, 20 * Y, 5, "ann lee.");
+        p.due("REASON 7", p.x.reason(0, 3), 7);
+        p.taken("together", p.x.together(0, 3, 30 * Y), 1);
+        p.taken("the same, not one SOUL yet", p.x.together(3, 0, 60 * Y), 2);
+        p.due("one WAITS by then", p.x.waits(60 * Y - 1, -1), 1);
+        p.due("both WAIT", p.x.waits(LAST, -1), 2);
+        p.due("the second", p.x.waits(LAST, 1), 1);
+        p.taken("SLACK 5", p.x.terms(10, 10, 5, 20, 5), 0);
+        p.due("one SOUL", p.x.soul(3, LAST), 0);
+        p.due("of two MENTIONS", p.x.mentions(3, LAST, 0, 0), 2);
+        p.due("none WAITS, the second has nothing left to do", p.x.waits(LAST, -1), 0);
+        p.due("nor a number of it", p.x.waits(LAST, 0), -1);
+        p.refused("a third", p.x.together(0, 3, 60), -4);
+    }
+
+    /** KIN has no ROLE of two unknown NAMES; children of a SOUL are SOULS, named or not. */
+    private static void childrenOfUnknownRoles() {
+        p.fresh();
+        p.line(0, 40 * Y, -1, "?, bob lee, eve fox.");
+        p.line(0, 41 * Y, -1, "? ?, ? lee, eve ?.");
+        p.line(0, 42 * Y, -1, "ann ?, ?, ?.");
+        p.due("a child without a NAME", p.x.about(1, LAST, LAST, 1), 1);
+        p.due("of a mother's, too", p.x.about(2, LAST, LAST, 1), 1);
+        p.due("of a father who has one NAME", p.x.about(4, LAST, LAST, 1), 1);
+        p.due("of a father without", p.x.about(7, LAST, LAST, 1), 1);
+        p.due("ahead of it", p.x.about(1, 40 * Y - 1, LAST, 1), 0);
+        p.due("no KIN without a NAME", p.x.kin(1, LAST, 2, 0), -1);
+        p.due("a child with one NAME is", p.x.kin(7, LAST, 2, 0), 6);
+        p.due("a father with one NAME is", p.x.kin(3, LAST, 0, 0), 4);
+        p.due("a mother with one NAME is", p.x.kin(3, LAST, 1, 0), 5);
+        p.due("a father without is none", p.x.kin(6, LAST, 0, 0), -1);
+        p.due("a mother without is none", p.x.kin(6, LAST, 1, 0), -1);
+    }
+
+    /** "the i-th spouse's (3), in the order of LINES": one for each LINE, the same SOUL, too. */
+    private static void spousesByLines() {
+        p.fresh();
+        p.line(1, 60 * Y, -1, "bob lee, eve fox.");
+        p.line(1, 50 * Y, -1, "bob lee, ann may.");
+        p.line(1, 61 * Y, -1, "bob lee, eve fox.");
+        p.x.together(0, 3, 0);
+        p.x.together(3, 6, 0);
+        p.x.together(1, 7, 100 * Y);
+        p.due("the first LINE's", p.x.kin(3, LAST, 3, 0), 1);
+        p.due("the second's", p.x.kin(3, LAST, 3, 1), 4);
+        p.due("the third's", p.x.kin(3, LAST, 3, 2), 1);
+        p.due("as known ahead", p.x.kin(3, 100 * Y - 1, 3, 2), 7);
+        p.due("no fourth", p.x.kin(3, LAST, 3, 3), -1);
+        p.due("hers", p.x.kin(7, LAST, 3, 0), 0);
+        p.due("hers again", p.x.kin(1, LAST, 3, 1), 0);
+        p.due("no third of hers", p.x.kin(1, LAST, 3, 2), -1);
     }
 
     /** "Two MENTIONS are APART, for all DAYS" */
